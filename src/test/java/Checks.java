@@ -46,8 +46,8 @@ final class Checks {
 
     /** A list's own IndexOutOfBoundsException has the due class, but LANGUAGE.md 7 rules it out. */
     private static boolean isOfOurOwn(RuntimeException thrown) {
-        StackTraceElement[] frames = thrown.getStackTrace();
-        return frames.length > 0 && !frames[0].getClassName().startsWith("java.");
+        String thrower = thrown.getStackTrace()[0].getClassName();
+        return thrower.startsWith("DeltaUpdater") || thrower.startsWith("Model");
     }
 
     static void feedText(DeltaUpdater on, String text) {
