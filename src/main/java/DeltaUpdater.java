@@ -44,7 +44,7 @@ public final class DeltaUpdater {
         buffered = 0;
         stored = new ArrayList<Row>();
         made = new ArrayList<Patch>();
-        installed = new Row(buffer, 0);
+        installed = new Row(new int[0], 0);
         history = new ArrayList<Row>();
         blockSums = new int[MOST_BYTES / LEAST_SIZE];
         reached = new int[MOST_VERSIONS];

@@ -28,6 +28,15 @@ final class Checks {
         due(what + ", then digest()", before, on::digest);
     }
 
+    /** The difference has these instructions, as told() tells them, and they make the goal. */
+    void dueDifference(String base, String goal, int size, String want) {
+        DeltaUpdater x = withVersions(base, goal);
+        String name = "difference of '" + base + "' and '" + goal + "' by " + size;
+        due(name, 0, () -> x.difference(0, 1, size));
+        due(name + " tells", want, () -> told(x, 0));
+        due(name + " applied", goal, () -> textOf(x, x.apply(0, 0)));
+    }
+
     void end() {
         System.out.println(wrong == 0 ? "all answers are as due" : wrong + " answers are wrong");
         if (wrong != 0) {
@@ -50,10 +59,25 @@ final class Checks {
         return thrower.startsWith("DeltaUpdater") || thrower.startsWith("Model");
     }
 
+    /** Feeds 8 bytes a call: an object is used for at most 512 calls. */
     static void feedText(DeltaUpdater on, String text) {
-        for (int i = 0; i < text.length(); i++) {
-            on.feed(text.charAt(i), 1);
+        for (int start = 0; start < text.length(); start += 8) {
+            int end = Math.min(start + 8, text.length());
+            long bytes = 0;
+            for (int i = start; i < end; i++) {
+                bytes = bytes << 8 | text.charAt(i);
+            }
+            on.feed(bytes, end - start);
         }
+    }
+
+    /** These bytes as a text. */
+    static String bytes(int... bytes) {
+        StringBuilder text = new StringBuilder();
+        for (int b : bytes) {
+            text.append((char) b);
+        }
+        return text.toString();
     }
 
     static int storeText(DeltaUpdater on, String text) {
@@ -72,7 +96,8 @@ final class Checks {
 
     static String textOf(DeltaUpdater of, int version) {
         StringBuilder text = new StringBuilder();
-        for (int place = 0; place < of.length(version); place++) {
+        int length = of.length(version);
+        for (int place = 0; place < length; place++) {
             text.append((char) of.byteAt(version, place));
         }
         return text.toString();
@@ -81,7 +106,8 @@ final class Checks {
     /** The instructions of a patch as a text: C(first place, length) and L(length, weak sum). */
     static String told(DeltaUpdater of, int patch) {
         StringBuilder text = new StringBuilder();
-        for (int i = 0; i < of.instructions(patch); i++) {
+        int instructions = of.instructions(patch);
+        for (int i = 0; i < instructions; i++) {
             int kind = of.instruction(patch, i, 0);
             int first = of.instruction(patch, i, 1);
             int length = of.instruction(patch, i, 2);
@@ -91,5 +117,16 @@ final class Checks {
                     : "L(" + length + "," + sum + ")");
         }
         return text.toString();
+    }
+
+    /** A LITERAL of these bytes, as told() tells it. */
+    static String literal(String bytes) {
+        int a = 0;
+        int b = 0;
+        for (int i = 0; i < bytes.length(); i++) {
+            a += bytes.charAt(i);
+            b += (bytes.length() - i) * bytes.charAt(i);
+        }
+        return "L(" + bytes.length() + "," + (a % 256 + 256 * (b % 256)) + ")";
     }
 }

@@ -5,6 +5,7 @@ public final class ModelTest {
     private static final Checks CHECKS = new Checks();
 
     private long seed;
+    private int calls = 0;
     private final DeltaUpdater real = new DeltaUpdater();
     private final Model model = new Model();
     private final int letters;
@@ -29,14 +30,19 @@ public final class ModelTest {
     }
 
     private void run(int run) {
-        for (int call = 0; call < CALLS / 2; call++) {
-            next("run " + run + ", call " + call + ": ");
-            CHECKS.due("run " + run + ", call " + call + ": digest", model.digest(), real::digest);
+        while (calls < CALLS) {
+            String at = "run " + run + ", call " + calls + ": ";
+            next(at);
+            same(at + "digest", real::digest, model::digest);
         }
     }
 
+    /** Asks both, up to the last call that the document promises an answer to. */
     private void same(String what, Checks.Call asked, Checks.Call due) {
-        CHECKS.due(what, Checks.outcome(due), asked);
+        if (calls < CALLS) {
+            calls++;
+            CHECKS.due(what, Checks.outcome(due), asked);
+        }
     }
 
     /** A number of a version or patch: mostly one there is. */

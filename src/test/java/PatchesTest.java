@@ -19,21 +19,11 @@ public final class PatchesTest {
     }
 
     private static void dueDifference(String base, String goal, int size, String want) {
-        DeltaUpdater x = Checks.withVersions(base, goal);
-        String name = "difference of '" + base + "' and '" + goal + "' by " + size;
-        CHECKS.due(name, 0, () -> x.difference(0, 1, size));
-        CHECKS.due(name + " tells", want, () -> Checks.told(x, 0));
-        CHECKS.due(name + " applied", goal, () -> Checks.textOf(x, x.apply(0, 0)));
+        CHECKS.dueDifference(base, goal, size, want);
     }
 
     private static String literal(String bytes) {
-        int a = 0;
-        int b = 0;
-        for (int i = 0; i < bytes.length(); i++) {
-            a += bytes.charAt(i);
-            b += (bytes.length() - i) * bytes.charAt(i);
-        }
-        return "L(" + bytes.length() + "," + (a % 256 + 256 * (b % 256)) + ")";
+        return Checks.literal(bytes);
     }
 
     /** Promise 11. */
