@@ -469,7 +469,7 @@ public final class DeltaUpdater {
             this.origins = origins;
             starts = startsIn(origins);
             literalBytes = literalsIn(origins);
-            price = priceOf(origins, starts, literalBytes);
+            price = priceOf(origins);
         }
 
         private static boolean startsAt(int[] origins, int place) {
@@ -502,10 +502,12 @@ public final class DeltaUpdater {
             return count;
         }
 
-        private static int priceOf(int[] origins, int[] starts, int literalBytes) {
-            int sum = literalBytes;
-            for (int i = 0; i < starts.length; i++) {
-                sum += origins[starts[i]] == NONE ? COST_OF_LITERAL : COST_OF_COPY;
+        private static int priceOf(int[] origins) {
+            int sum = literalsIn(origins);
+            for (int place = 0; place < origins.length; place++) {
+                if (startsAt(origins, place)) {
+                    sum += origins[place] == NONE ? COST_OF_LITERAL : COST_OF_COPY;
+                }
             }
             return sum;
         }

@@ -1,7 +1,10 @@
+import java.io.IOException;
 import java.lang.reflect.Constructor;
 import java.lang.reflect.Field;
 import java.lang.reflect.Method;
 import java.lang.reflect.Modifier;
+import java.nio.file.Files;
+import java.nio.file.Path;
 import java.util.ArrayList;
 import java.util.Arrays;
 import java.util.List;
@@ -41,7 +44,7 @@ public final class FaceTest {
     };
     private static final Checks CHECKS = new Checks();
 
-    public static void main(String[] args) {
+    public static void main(String[] args) throws IOException {
         Class<?> face = DeltaUpdater.class;
         CHECKS.due("class", "public final", () -> Modifier.toString(face.getModifiers()));
         CHECKS.due("methods", new TreeSet<>(Arrays.asList(FACE)), FaceTest::openMethods);
@@ -57,7 +60,28 @@ public final class FaceTest {
         for (Constructor<?> constructor : face.getDeclaredConstructors()) {
             CHECKS.due("thrown by " + constructor, 0, () -> constructor.getExceptionTypes().length);
         }
+        asTheDocumentWritesIt();
         CHECKS.end();
+    }
+
+    /** Each line of the document's face stands in the source, in its order, parameters and all. */
+    private static void asTheDocumentWritesIt() throws IOException {
+        String document = Files.readString(Path.of("../shared/DOC.md"));
+        String source = Files.readString(Path.of("src/main/java/DeltaUpdater.java"));
+        String written = source.replaceAll("\\s+", " ");
+        int methods = 0;
+        int at = 0;
+        for (String line : document.split("```")[1].split("\n")) {
+            if (!line.startsWith("    public ")) {
+                continue;
+            }
+            methods++;
+            int behind = written.indexOf(line.trim().replace(";", " {"), at);
+            CHECKS.due(line.trim() + " stands in its place", true, () -> behind >= 0);
+            at = Math.max(at, behind);
+        }
+        int all = methods;
+        CHECKS.due("the constructor and the methods", FACE.length + 1, () -> all);
     }
 
     private static TreeSet<String> openMethods() {

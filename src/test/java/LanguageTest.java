@@ -213,11 +213,15 @@ public final class LanguageTest extends TreePathScanner<Void, Void> {
                 && type.getQualifiedName().contentEquals("DeltaUpdater");
     }
 
-    // ---- rules 4, 8, 10 and 11: calls
+    // ---- rules 4, 8, 10, 11 and 12: calls
 
     @Override
     public Void visitMethodInvocation(MethodInvocationTree tree, Void none) {
         called(tree);
+        if (isInConstructor()) {
+            checkCallOfConstructor(tree);
+            checkHandedOut(tree.getArguments());
+        }
         return super.visitMethodInvocation(tree, none);
     }
 
@@ -227,6 +231,9 @@ public final class LanguageTest extends TreePathScanner<Void, Void> {
             broken(2, tree, "an anonymous class");
         }
         called(tree);
+        if (isInConstructor()) {
+            checkHandedOut(tree.getArguments());
+        }
         return super.visitNewClass(tree, none);
     }
 
@@ -251,6 +258,33 @@ public final class LanguageTest extends TreePathScanner<Void, Void> {
             path = path.getParentPath();
         }
         return trees.getElement(path);
+    }
+
+    private boolean isInConstructor() {
+        return caller() != null && caller().getKind() == ElementKind.CONSTRUCTOR;
+    }
+
+    private void checkCallOfConstructor(MethodInvocationTree tree) {
+        Element called = trees.getElement(getCurrentPath());
+        boolean plain = called != null && (called.getKind() == ElementKind.CONSTRUCTOR
+                || called.getModifiers().contains(Modifier.STATIC));
+        if (!plain) {
+            broken(12, tree, "a constructor calls a method of an object");
+        }
+    }
+
+    /** What a constructor gives to a call is neither the object it makes nor a row or a list in it. */
+    private void checkHandedOut(List<? extends ExpressionTree> arguments) {
+        for (ExpressionTree argument : arguments) {
+            TreePath path = new TreePath(getCurrentPath(), argument);
+            Element given = trees.getElement(path);
+            boolean held = given != null && given.getKind() == ElementKind.FIELD
+                    && !given.getModifiers().contains(Modifier.STATIC)
+                    && !trees.getTypeMirror(path).getKind().isPrimitive();
+            if (held || argument.toString().equals("this")) {
+                broken(12, argument, "a constructor hands out " + argument);
+            }
+        }
     }
 
     @Override
